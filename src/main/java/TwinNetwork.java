@@ -311,18 +311,16 @@ public final class TwinNetwork {
 
     private void moveFrames() {
         for (int i = 0; i < lines.length; i++) {
-            if (lines[i].moves()) {
-                arrive(i / LINES, i % LINES, lines[i].frame);
+            if (!lines[i].moves()) {
+                continue;
             }
-        }
-    }
-
-    private void arrive(int network, int line, Frame frame) {
-        int reason = ENDS_AT_SWITCH[line] == NONE
-                ? enterSystem(network, line - FIRST_FROM_SWITCH, frame)
-                : passSwitch(network, line, frame);
-        if (reason != GOES_ON) {
-            dropCounts[reason]++;
+            int line = i % LINES;
+            int reason = ENDS_AT_SWITCH[line] == NONE
+                    ? enterSystem(i / LINES, line - FIRST_FROM_SWITCH, lines[i].frame)
+                    : passSwitch(i / LINES, line, lines[i].frame);
+            if (reason != GOES_ON) {
+                dropCounts[reason]++;
+            }
         }
     }
 
@@ -368,7 +366,8 @@ public final class TwinNetwork {
         if (!frame.hasRightForm()) {
             return WRONG_FORM;
         }
-        return port.accept(network, frame, time);
+        int reason = port.receive(network, frame.sequence(), time);
+        return reason == GOES_ON ? port.putTogether(frame, time) : reason;
     }
 
     private void takeFrames() {
@@ -398,7 +397,7 @@ public final class TwinNetwork {
         }
 
         int pairAt(int k) {
-            return at(k) << 8 | at(k + 1);
+            return k >= 0 && k + 1 < size ? (bytes[k] & 255) << 8 | bytes[k + 1] & 255 : NONE;
         }
 
         void set(int k, int value) {
@@ -783,12 +782,11 @@ public final class TwinNetwork {
             length = other.length;
         }
 
-        void append(Frame frame) {
-            int more = Math.min(frame.fragmentLength(), MOST_DATAGRAM - length);
-            for (int i = 0; i < more; i++) {
-                bytes[length + i] = (byte) frame.at(HEAD + i);
+        void append(Frame frame, int fragmentLength) {
+            for (int i = 0; i < fragmentLength && length < MOST_DATAGRAM; i++) {
+                bytes[length] = (byte) frame.at(HEAD + i);
+                length++;
             }
-            length += Math.max(0, more);
         }
 
         boolean isWhole() {
@@ -822,9 +820,8 @@ public final class TwinNetwork {
             return sequence == 255 ? 1 : sequence + 1;
         }
 
-        /** The reason for which a frame is dropped, or GOES_ON. */
-        int accept(int network, Frame frame, int time) {
-            int sequence = frame.sequence();
+        /** The reason for which a frame with this sequence number isn't taken, or GOES_ON. */
+        int receive(int network, int sequence, int time) {
             int last = lastSequences[network];
             lastSequences[network] = sequence;
             if (!isInOrder(sequence, last)) {
@@ -835,7 +832,7 @@ public final class TwinNetwork {
             }
             takenSequence = sequence;
             takenAt = time;
-            return putTogether(frame, time);
+            return GOES_ON;
         }
 
         private static boolean isInOrder(int sequence, int last) {
@@ -854,11 +851,13 @@ public final class TwinNetwork {
             return sequence == 0 || takenSequence == 0 || ahead < 128;
         }
 
-        private int putTogether(Frame frame, int time) {
+        /** The reason for which a frame that was taken makes no message, or GOES_ON. */
+        int putTogether(Frame frame, int time) {
             int place = frame.place();
+            int length = frame.fragmentLength();
             boolean fits = place == 0
                     || isBegun && frame.messageNumber() == begunNumber && place == begun.length;
-            isBegun = fits && place + frame.fragmentLength() <= MOST_DATAGRAM;
+            isBegun = fits && place + length <= MOST_DATAGRAM;
             if (!isBegun) {
                 return BROKEN_MESSAGE;
             }
@@ -866,7 +865,7 @@ public final class TwinNetwork {
                 begun.length = 0;
                 begunNumber = frame.messageNumber();
             }
-            begun.append(frame);
+            begun.append(frame, length);
             if (frame.moreFollow()) {
                 return GOES_ON;
             }
