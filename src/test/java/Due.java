@@ -8,16 +8,23 @@ final class Due {
     private static final int OTHER = -103;
 
     private final String test;
+    private String sentence = "";
     private int wrong = 0;
 
     Due(String test) {
         this.test = test;
     }
 
+    /** What follows tests these words of the document; wrong answers are told with them. */
+    void sentence(String words) {
+        sentence = words;
+    }
+
     void is(String call, int got, int want) {
         if (got != want) {
             wrong++;
-            System.out.println(test + ": " + call + " answered " + told(got) + ", due is " + told(want));
+            System.out.println(test + ": " + call + " answered " + told(got) + ", due is " + told(want)
+                    + (sentence.isEmpty() ? "" : "; the document: \"" + sentence + "\""));
         }
     }
 
@@ -43,6 +50,17 @@ final class Due {
 
     void refusesState(String call, Runnable got) {
         is(call, outcome(() -> { got.run(); return 0; }), STATE);
+    }
+
+    /** Looks at dropped for all reasons: those told (reason, number, reason, number ..), 0 for all others. */
+    void drops(String when, TwinNetwork x, int... due) {
+        int[] want = new int[12];
+        for (int i = 0; i < due.length; i += 2) {
+            want[due[i]] = due[i + 1];
+        }
+        for (int reason = 0; reason < 12; reason++) {
+            is("dropped(" + reason + ") " + when, x.dropped(reason), want[reason]);
+        }
     }
 
     /** The answer, or a number that stands for the exception. */
