@@ -52,7 +52,8 @@ public final class FaceTest {
             due.isFalse(name + " is public", Modifier.isPublic(inside.getModifiers()));
             due.isFalse(name + " is protected", Modifier.isProtected(inside.getModifiers()));
             for (Method method : inside.getDeclaredMethods()) {
-                due.isFalse(name + "." + method.getName() + " bears a name of the face", names.contains(method.getName()));
+                due.isFalse(name + "." + method.getName() + " bears a name of the face",
+                        names.contains(method.getName()));
             }
         }
         for (Method method : face.getDeclaredMethods()) {

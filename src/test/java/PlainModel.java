@@ -230,7 +230,8 @@ final class PlainModel {
                     if (x.gone >= x.frame.length) {
                         int[] frame = x.frame;
                         x.frame = null;
-                        int reason = to(line) >= 10 ? atSwitch(network, line, frame) : atSystem(network, to(line), frame);
+                        int reason = to(line) >= 10
+                                ? atSwitch(network, line, frame) : atSystem(network, to(line), frame);
                         if (reason > 0) {
                             drops[reason]++;
                         }

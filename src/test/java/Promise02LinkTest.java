@@ -91,7 +91,8 @@ public final class Promise02LinkTest {
                 }
             }
         }
-        for (int targets : new int[] {16, 18, -2, 34, Integer.MIN_VALUE, Integer.MIN_VALUE + 2, Integer.MAX_VALUE - 1}) {
+        int least = Integer.MIN_VALUE;
+        for (int targets : new int[] {16, 18, -2, 34, least, least + 2, Integer.MAX_VALUE - 1}) {
             refuses(0, 0, 4, 64, targets, 4);
         }
     }
@@ -161,7 +162,8 @@ public final class Promise02LinkTest {
     }
 
     private static void whatIsToldIsUsed() {
-        DUE.sentence("Sets up a link: its source, the power of two of its GAP (4 .. 9), MOST, the targets (bits), flags");
+        DUE.sentence("Sets up a link: its source, the power of two of its GAP (4 .. 9), MOST, the targets (bits), "
+                + "flags");
         TwinNetwork x = Made.withLink(1, 2, 5, 96, 8 + 1, 4 * 7 + 2 + 1);
         DUE.is("account(1, 1)", x.account(1, 1), 96 * (32 + 64));
         DUE.is("port(0, 1)", x.port(0, 1), 0);

@@ -5,6 +5,7 @@ public final class Promise03WriteTest {
     private static final Due DUE = new Due("promise 3");
 
     public static void main(String[] args) {
+        theFragmentsWait();
         messagesHave1To400Bytes();
         bytesAreTheLowestEightBits();
         aDatagramTellsItsLength();
@@ -30,6 +31,17 @@ public final class Promise03WriteTest {
         TwinNetwork x = Made.withLink(0, 0, 4, most, 2, flags);
         DUE.refusesArgument("write(0, " + size + ", 1) with MOST " + most, () -> x.write(0, size, 1));
         DUE.is("fragments(0)", x.fragments(0), 0);
+    }
+
+    private static void theFragmentsWait() {
+        DUE.sentence("A message is written to a link: how many fragments it has, which wait now.");
+        TwinNetwork x = Made.withLink(0, 0, 4, 64, 2, QUEUING);
+        int[][] messages = {{1, 1, 1}, {17, 2, 3}, {64, 3, 6}, {40, 2, 8}};
+        for (int[] a : messages) {
+            DUE.answers("write(0, " + a[0] + ", 1)", a[1], () -> x.write(0, a[0], 1));
+            DUE.is("fragments(0)", x.fragments(0), a[2]);
+            DUE.is("waiting(0, 0, 0) before a tick", x.waiting(0, 0, 0), 0);
+        }
     }
 
     private static void messagesHave1To400Bytes() {
@@ -60,7 +72,8 @@ public final class Promise03WriteTest {
 
     /** 255 bytes, 256 and the greatest: 408. */
     private static void aDatagramTellsItsLength() {
-        DUE.sentence("how many bytes the datagram has (2), 0, 0, and the message (numbers of 2 bytes: the upper one first)");
+        DUE.sentence("Its DATAGRAM: 3, 232 + l of link l (2 bytes of 1000 + l), 7, 208 + l (2000 + l), how many bytes "
+                + "the datagram has (2), 0, 0, and the message (numbers of 2 bytes: the upper one first)");
         int[][] sizes = {{1, 0, 9}, {247, 0, 255}, {248, 1, 0}, {249, 1, 1}, {400, 1, 152}};
         for (int[] a : sizes) {
             TwinNetwork x = Made.withLink(7, 0, 4, 128, 8, QUEUING);
@@ -76,7 +89,8 @@ public final class Promise03WriteTest {
     /** Two datagrams for each MOST: the greatest that is one fragment, and one byte more. */
     private static void fragmentsAreAMultipleOfEight() {
         DUE.sentence("Let p be MOST less 39, and P the greatest multiple of 8 not above p.");
-        int[][] fragments = {{64, 24}, {70, 24}, {71, 32}, {72, 32}, {78, 32}, {79, 40}, {126, 80}, {127, 88}, {128, 88}};
+        int[][] fragments = {{64, 24}, {70, 24}, {71, 32}, {72, 32}, {78, 32}, {79, 40}, {126, 80}, {127, 88},
+            {128, 88}};
         for (int[] a : fragments) {
             needs(a[0], QUEUING, a[1] - 8, 1);
             needs(a[0], QUEUING, a[1] - 7, 2);

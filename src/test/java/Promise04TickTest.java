@@ -8,6 +8,7 @@ public final class Promise04TickTest {
         aLinkIsOpenAtFirst();
         aLinkIsOpenAgainAfterItsGap();
         aGapIsKeptWithoutRoom();
+        aFrameWithoutRoomHasItsNumber();
         linksGoByNumber();
         sequenceNumbersGoRound();
         framesGoIntoBothNetworks();
@@ -33,6 +34,12 @@ public final class Promise04TickTest {
         DUE.is("tick(least)", x.tick(Integer.MIN_VALUE), 4000);
         DUE.is("tick(greatest)", x.tick(Integer.MAX_VALUE), 4000);
         DUE.is("tick(7)", x.tick(7), 4007);
+        DUE.sentence("(4) The time is t + 1.");
+        TwinNetwork busy = Made.fromZeroToThree(20, Made.QUEUING);
+        busy.write(0, 100, 1);
+        for (int time = 1; time < 100; time++) {
+            DUE.is("tick(1)", busy.tick(1), time);
+        }
     }
 
     private static void aTickOfNoneChangesNothing() {
@@ -94,22 +101,44 @@ public final class Promise04TickTest {
 
     /** All rooms of line 0 are taken: the fragment is gone all the same, and the link waits for its GAP. */
     private static void aGapIsKeptWithoutRoom() {
+        DUE.sentence("it is OPEN again at t + GAP");
+        for (int networks = 1; networks <= 2; networks++) {
+            TwinNetwork x = Made.withLink(0, 0, 5, 64, 8, 4);
+            for (int i = 0; i < 16; i++) {
+                x.babble(0, 0, 1, 64, i);
+                x.babble(networks - 1, 0, 1, 64, i);
+            }
+            int babblesWithoutRoom = networks == 1 ? 16 : 0;
+            x.write(0, 1, 1);
+            x.write(0, 1, 2);
+            x.tick(1);
+            DUE.drops("without room in " + networks, x, 6, babblesWithoutRoom + networks);
+            DUE.is("onLine(1, 0, 5)", x.onLine(1, 0, 5), networks == 1 ? 0 : 1);
+            DUE.is("fragments(0) at 1", x.fragments(0), 1);
+            x.tick(31);
+            DUE.is("fragments(0) at 32", x.fragments(0), 1);
+            x.tick(1);
+            DUE.is("fragments(0) at 33", x.fragments(0), 0);
+            DUE.is("dropped(6) at 33", x.dropped(6), babblesWithoutRoom + networks);
+        }
+    }
+
+    /** Frame 0 has no room in network 0: in network 1 it is followed by 1. */
+    private static void aFrameWithoutRoomHasItsNumber() {
         DUE.sentence("a frame for which there is no room is DROPPED");
-        TwinNetwork x = Made.withLink(0, 0, 5, 64, 8, 4);
+        TwinNetwork x = Made.fromZeroToThree(1, 0);
         for (int i = 0; i < 16; i++) {
-            x.babble(0, 0, 1, 64, i);
+            x.babble(0, 0, 1, 64, 100 + i);
         }
         x.write(0, 1, 1);
         x.write(0, 1, 2);
         x.tick(1);
-        DUE.drops("without room in network 0", x, 6, 1);
-        DUE.is("onLine(1, 0, 5)", x.onLine(1, 0, 5), 0);
-        DUE.is("fragments(0) at 1", x.fragments(0), 1);
-        x.tick(31);
-        DUE.is("fragments(0) at 32", x.fragments(0), 1);
-        x.tick(1);
-        DUE.is("fragments(0) at 33", x.fragments(0), 0);
-        DUE.is("the next sequence number", x.onLine(1, 0, 59), 1);
+        DUE.is("the first sequence number in network 1", x.onLine(1, 0, 59), 0);
+        x.tick(16);
+        DUE.is("the next sequence number in network 1", x.onLine(1, 0, 59), 1);
+        x.tick(16 * 8 - 16);
+        DUE.is("the first sequence number in network 0", x.onLine(0, 0, 59), 1);
+        DUE.is("its link", x.onLine(0, 0, 5), 0);
     }
 
     private static void linksGoByNumber() {
@@ -168,7 +197,8 @@ public final class Promise04TickTest {
     /** A frame is taken in the tick at 0; in the one at 8 it has gone 64 bytes. */
     private static void aFrameGoesEightBytesATick() {
         DUE.sentence("if a frame is on it, 8 bytes more have gone; if all have, it ARRIVES");
-        int[][] ticks = {{64, 8}, {65, 9}, {71, 9}, {72, 9}, {73, 10}, {127, 16}, {128, 16}, {129, 17}, {199, 25}, {200, 25}};
+        int[][] ticks = {{64, 8}, {65, 9}, {71, 9}, {72, 9}, {73, 10}, {127, 16}, {128, 16}, {129, 17}, {199, 25},
+            {200, 25}};
         for (int[] a : ticks) {
             TwinNetwork x = new TwinNetwork();
             x.babble(0, 0, 0, a[0], 0);

@@ -63,7 +63,8 @@ public final class Promise09BabbleTest {
     }
 
     private static void numbersAreCutToTheirLowestBits() {
-        DUE.sentence("number n (its lowest 16 bits), place 0, none following, a SEQUENCE number (n's lowest eight bits)");
+        DUE.sentence("number n (its lowest 16 bits), place 0, none following, "
+                + "a SEQUENCE number (n's lowest eight bits)");
         for (int n : new int[] {0, 255, 256, 0x12345, 65535, 65536, -1, -256, Integer.MIN_VALUE, Integer.MAX_VALUE}) {
             theFrameIsAsTold(1, 3, 0, 65, n);
         }

@@ -17,7 +17,8 @@ public final class Promise11WaitingTest {
         DUE.sentence("NONE if there is none such");
         TwinNetwork x = new TwinNetwork();
         int[][] none = {{-1, 0, 0}, {2, 0, 0}, {0, -1, 0}, {0, 12, 0}, {0, 4, -1}, {0, 4, 2}, {0, 0, -1}, {0, 0, 2},
-            {Integer.MAX_VALUE, 0, 0}, {0, Integer.MAX_VALUE, 0}, {0, 0, Integer.MIN_VALUE}, {1, 11, Integer.MAX_VALUE}};
+            {Integer.MAX_VALUE, 0, 0}, {0, Integer.MAX_VALUE, 0}, {0, 0, Integer.MIN_VALUE},
+            {1, 11, Integer.MAX_VALUE}};
         for (int[] a : none) {
             DUE.is("waiting(" + a[0] + ", " + a[1] + ", " + a[2] + ")", x.waiting(a[0], a[1], a[2]), -1);
         }
@@ -146,7 +147,8 @@ public final class Promise11WaitingTest {
         for (int line = 4; line < 12; line++) {
             TwinNetwork x = new TwinNetwork();
             for (int i = 0; i < 6; i++) {
-                DUE.is("room for frame " + i + " before line " + line, Forged.put(x, 1, line, frame) ? 1 : 0, i < 4 ? 1 : 0);
+                DUE.isTrue("room for frame " + i + " before line " + line,
+                        Forged.put(x, 1, line, frame) == i < 4);
             }
             DUE.is("waiting(1, " + line + ", 0)", x.waiting(1, line, 0), 4);
         }

@@ -105,7 +105,8 @@ public final class Promise13AccountTest {
      * in tick 456 there is just enough for another.
      */
     private static void whatItJustCoversGoesOn() {
-        DUE.sentence("its link's ACCOUNT (of this network) is less than its bytes times GAP; otherwise the account has that less");
+        DUE.sentence("its link's ACCOUNT (of this network) is less than its bytes times GAP; "
+                + "otherwise the account has that less");
         TwinNetwork x = secondFrameAt(448);
         DUE.is("account(1, 0) at 457", x.account(1, 0), 64);
         DUE.drops("with just enough", x, 10, 1);

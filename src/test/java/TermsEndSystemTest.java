@@ -14,6 +14,7 @@ public final class TermsEndSystemTest {
         theNextTwoAreInOrder();
         numbersGoRound();
         theLastOneIsThisInAnyCase();
+        theOrderComesFirst();
         eachNetworkHasItsOwnOrder();
         eachLinkHasItsOwnOrder();
         eachSystemHasItsOwnOrder();
@@ -187,8 +188,8 @@ public final class TermsEndSystemTest {
         for (int[] a : inOrder) {
             comeInOrder(a[0], a[1], true);
         }
-        int[][] outOfOrder = {{0, 3}, {0, 255}, {0, 254}, {255, 3}, {255, 255}, {255, 254}, {254, 2}, {254, 254}, {253, 1},
-            {253, 2}, {1, 255}, {1, 254}};
+        int[][] outOfOrder = {{0, 3}, {0, 255}, {0, 254}, {255, 3}, {255, 255}, {255, 254}, {254, 2}, {254, 254},
+            {253, 1}, {253, 2}, {1, 255}, {1, 254}};
         for (int[] a : outOfOrder) {
             comeInOrder(a[0], a[1], false);
         }
@@ -207,6 +208,17 @@ public final class TermsEndSystemTest {
             wrong += inOrder[i] ? 0 : 1;
             DUE.drops("after number " + i + ": " + numbers[i], x, 8, wrong, 10, i + 1 - wrong);
         }
+    }
+
+    /** 5 again in the same network, before the SKEW is over, is both out of order and not to be taken. */
+    private static void theOrderComesFirst() {
+        DUE.sentence("8 it isn't in order");
+        TwinNetwork x = Made.fromZeroToThree(100, Made.QUEUING);
+        Made.babbleAndWait(x, 0, 5);
+        Made.babbleAndWait(x, 0, 5);
+        DUE.drops("with 5 after 5 in the same network", x, 8, 1, 10, 1);
+        Made.babbleAndWait(x, 0, 3);
+        DUE.drops("with 3 after 5 in the same network", x, 8, 2, 10, 1);
     }
 
     private static void eachNetworkHasItsOwnOrder() {

@@ -59,6 +59,12 @@ public final class TermsFragmentsTest {
         }
         r.comes(7, 48, false, part(40, 48));
         r.stands("with one more when it is finished", 0, 1);
+        // 16 bytes that tell 24 are finished, and no message; 8 bytes more don't make them one.
+        Receiver broken = new Receiver();
+        broken.comes(7, 0, false, told(16, 24));
+        broken.stands("with 16 of 24 bytes", 0, 1);
+        broken.comes(7, 16, false, new int[8]);
+        broken.stands("with 8 bytes more when it is finished", 0, 2);
     }
 
     private static void placeZeroBeginsAMessage() {
@@ -85,7 +91,8 @@ public final class TermsFragmentsTest {
     }
 
     private static void anotherMustHaveTheNumber() {
-        DUE.sentence("another must have the number and place at which the begun one goes on, else 10, and the begun one is lost");
+        DUE.sentence("another must have the number and place at which the begun one goes on, else 10, "
+                + "and the begun one is lost");
         for (int number : new int[] {6, 8, 7 + 256, 7 ^ 32768}) {
             Receiver r = new Receiver();
             r.comes(7, 0, true, part(0, 16));
@@ -101,7 +108,8 @@ public final class TermsFragmentsTest {
     }
 
     private static void anotherMustHaveThePlace() {
-        DUE.sentence("another must have the number and place at which the begun one goes on, else 10, and the begun one is lost");
+        DUE.sentence("another must have the number and place at which the begun one goes on, else 10, "
+                + "and the begun one is lost");
         for (int place : new int[] {8, 24, 128, 2040}) {
             Receiver r = new Receiver();
             r.comes(7, 0, true, part(0, 16));
@@ -206,7 +214,8 @@ public final class TermsFragmentsTest {
             for (int told : new int[] {0, length - 1, length + 1, length + 256, length * 256 % 65536, length}) {
                 Receiver r = new Receiver();
                 r.comes(0, 0, false, told(length, told));
-                r.stands(length + " bytes with a told length of " + told, told == length ? 1 : 0, told == length ? 0 : 1);
+                int messages = told == length ? 1 : 0;
+                r.stands(length + " bytes with a told length of " + told, messages, 1 - messages);
             }
         }
         Receiver r = new Receiver();

@@ -96,10 +96,11 @@ public final class TermsSwitchTest {
                 TwinNetwork x = Made.withLink(0, 0, 4, most, 8, 4);
                 x.babble(1, 0, 0, size, 0);
                 x.tick((size + 7) / 8 + 1);
-                DUE.drops("with " + size + " bytes of " + most, x, 4, size > most ? 1 : 0);
-                DUE.is("onLine(1, 7, -1) with " + size + " bytes of " + most, x.onLine(1, 7, -1), size > most ? -1 : size);
+                String when = "with " + size + " bytes of " + most;
+                DUE.drops(when, x, 4, size > most ? 1 : 0);
+                DUE.is("onLine(1, 7, -1) " + when, x.onLine(1, 7, -1), size > most ? -1 : size);
                 int paid = size > most ? 0 : 16 * size - most;
-                DUE.is("account(1, 0) with " + size + " bytes of " + most, x.account(1, 0), most * 80 - paid);
+                DUE.is("account(1, 0) " + when, x.account(1, 0), most * 80 - paid);
             }
         }
         // The first switch lets no such frame pass: it is forged.

@@ -10,7 +10,12 @@ public final class WrongInputsTest {
     private static final int[] NETWORKS = {Integer.MIN_VALUE, -1, 0, 1, 2, Integer.MAX_VALUE};
     private static final int[] LINES = {Integer.MIN_VALUE, -1, 0, 3, 4, 11, 12, Integer.MAX_VALUE};
     private static final int[] PLACES = {Integer.MIN_VALUE, -2, -1, 0, 63, 64, 127, 128, 199, 200, Integer.MAX_VALUE};
-    private static final int[] SIZES = {Integer.MIN_VALUE, -1, 0, 1, 17, 18, 81, 82, 184, 185, 400, 401, Integer.MAX_VALUE};
+    private static final int[] SIZES = {Integer.MIN_VALUE, -1, 0, 1, 17, 18, 81, 82, 184, 185, 400, 401,
+        Integer.MAX_VALUE};
+    private static final int[] GAPS = {Integer.MIN_VALUE, 3, 4, 9, 10, Integer.MAX_VALUE};
+    private static final int[] MOSTS = {Integer.MIN_VALUE, 63, 64, 128, 129, Integer.MAX_VALUE};
+    private static final int[] TARGETS = {Integer.MIN_VALUE, -1, 0, 1, 7, 8, 14, 15, 16, Integer.MAX_VALUE};
+    private static final int[] FLAGS = {Integer.MIN_VALUE, -1, 0, 3, 4, 4003, 4004, Integer.MAX_VALUE};
     private static final int[] FRAMES = {Integer.MIN_VALUE, -1, 0, 63, 64, 200, 201, Integer.MAX_VALUE};
 
     private final Due due = new Due("wrong inputs");
@@ -47,15 +52,19 @@ public final class WrongInputsTest {
     private void linkCalls() {
         for (int l : LINKS) {
             for (int source : SYSTEMS) {
-                for (int gap : new int[] {Integer.MIN_VALUE, 3, 4, 9, 10, Integer.MAX_VALUE}) {
-                    for (int most : new int[] {Integer.MIN_VALUE, 63, 64, 128, 129, Integer.MAX_VALUE}) {
-                        for (int targets : new int[] {Integer.MIN_VALUE, -1, 0, 1, 7, 8, 14, 15, 16, Integer.MAX_VALUE}) {
-                            for (int flags : new int[] {Integer.MIN_VALUE, -1, 0, 3, 4, 4003, 4004, Integer.MAX_VALUE}) {
-                                linkCall(l, source, gap, most, targets, flags);
-                            }
-                        }
+                for (int gap : GAPS) {
+                    for (int most : MOSTS) {
+                        linkCalls(l, source, gap, most);
                     }
                 }
+            }
+        }
+    }
+
+    private void linkCalls(int l, int source, int gap, int most) {
+        for (int targets : TARGETS) {
+            for (int flags : FLAGS) {
+                linkCall(l, source, gap, most, targets, flags);
             }
         }
     }
@@ -105,17 +114,21 @@ public final class WrongInputsTest {
             }
             for (int e : SYSTEMS) {
                 for (int l : LINKS) {
-                    for (int size : FRAMES) {
-                        for (int n : FAR) {
-                            next();
-                            due.is("babble(" + network + ", " + e + ", " + l + ", " + size + ", " + n + ")",
-                                    Due.outcomeOf(() -> x.babble(network, e, l, size, n)),
-                                    Due.outcomeOf(() -> m.babble(network, e, l, size, n)));
-                        }
-                    }
+                    babbleCalls(network, e, l);
                     next();
                     due.is("tick(9)", Due.outcome(() -> x.tick(9)), Due.outcome(() -> m.tick(9)));
                 }
+            }
+        }
+    }
+
+    private void babbleCalls(int network, int e, int l) {
+        for (int size : FRAMES) {
+            for (int n : FAR) {
+                next();
+                due.is("babble(" + network + ", " + e + ", " + l + ", " + size + ", " + n + ")",
+                        Due.outcomeOf(() -> x.babble(network, e, l, size, n)),
+                        Due.outcomeOf(() -> m.babble(network, e, l, size, n)));
             }
         }
     }
@@ -143,7 +156,8 @@ public final class WrongInputsTest {
             }
             for (int network : NETWORKS) {
                 next();
-                due.is("account(" + network + ", " + l + ")", Due.outcome(() -> x.account(network, l)), m.account(network, l));
+                due.is("account(" + network + ", " + l + ")",
+                        Due.outcome(() -> x.account(network, l)), m.account(network, l));
             }
         }
         for (int reason : new int[] {Integer.MIN_VALUE, -1, 0, 1, 11, 12, Integer.MAX_VALUE}) {
