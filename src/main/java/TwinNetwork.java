@@ -17,6 +17,7 @@ public final class TwinNetwork {
     private static final int ROOM_FROM_SYSTEM = 16;
     private static final int ROOM_FROM_SWITCH = 4;
     private static final int BURST = 64;
+    private static final int LOWEST_31_BITS = 0x7FFFFFFF;
 
     private static final int LEAST_FRAME = 64;
     private static final int MOST_LINK_FRAME = 128;
@@ -144,7 +145,7 @@ public final class TwinNetwork {
         if (harmed == null || mask < 0 || mask > 255) {
             return false;
         }
-        harmed.expectHarm(place & Integer.MAX_VALUE, mask);
+        harmed.expectHarm(place & LOWEST_31_BITS, mask);
         return true;
     }
 
