@@ -53,8 +53,8 @@ public final class Promise10OnLineTest {
     /** Bit by bit, as the document says it. */
     private static void theCheckIsAsTold() {
         DUE.sentence("CHECK: CRC-32 of all bytes before: of 32 bits, at first all 1; for each bit of each byte, the "
-                + "lowest first: they go down by one, and, if the lowest one wasn't the byte's bit, become xor 3988292384; "
-                + "at last all are turned; its lowest byte first.");
+                + "lowest first: they go down by one, and, if the lowest one wasn't the byte's bit, become xor "
+                + "3988292384; at last all are turned; its lowest byte first.");
         for (int size : new int[] {64, 65, 200}) {
             TwinNetwork x = new TwinNetwork();
             x.babble(1, 2, 5, size, 777);
